@@ -419,6 +419,12 @@ public final class PromisesTest {
         given("stable", port, false, 35, 3, 2, 20, 1, NONE, NONE, NONE, NONE, 0);
         port.hull(0, 0, 1);
         given("stable", port, false, 35, 3, 2, 20, NONE, 1, NONE, NONE, NONE, 0);
+        // a little more is liked better
+        port = new LentNames();
+        port.worth(2, 3, 11);
+        given("stable", port, false, 4, 31, 1, 11, NONE, NONE, 3, NONE, NONE, NONE);
+        port.worth(2, 1, 11);
+        given("stable", port, false, 4, 31, 1, 11, NONE, NONE, 1, NONE, NONE, NONE);
         // a name of no worth is liked better than none
         port = new LentNames();
         port.worth(2, 3, 0);
@@ -565,6 +571,9 @@ public final class PromisesTest {
         port.luck(1, 2);
         due("home(1, 1, 0)", port.home(1, 1, 0), 23);
         due("home(1, 1, 1)", port.home(1, 1, 1), 25);
+        port.luck(1, 4);
+        due("home(1, 2, 0)", port.home(1, 2, 0), 2209);
+        due("home(1, 2, 1)", port.home(1, 2, 1), 2500);
         due("home(5, 0, 2)", port.home(5, 0, 2), LOST + UNKNOWN);
         due("home(-1, 1, 0)", port.home(-1, 1, 0), LOST + UNKNOWN);
         due("home(0, 0, 0)", port.home(0, 0, 0), LOST + OUTSIDE);
@@ -644,6 +653,14 @@ public final class PromisesTest {
         port.hull(4, 1, 9);
         wintered(port, 279, 1, 0, 0, 0);
         wintered(port, 279, 2, 1, 1, 0);
+        // hull 0 sails, drowns and comes home as all others do
+        LentNames first = new LentNames();
+        first.luck(0, 7);
+        first.hull(0, 1, 9);
+        wintered(first, 279, 3, 0, 0, 0);
+        wintered(first, 279, 4, 1, 1, 0);
+        first.hull(0, 1, 3);
+        wintered(first, 279, 4, 1, 1, 1);
         // they that MAY not sail do not, and draw nothing
         port.hull(3, 1, 1);
         port.hull(3, 0, 0);
