@@ -22,10 +22,13 @@ public final class LanguageTest {
         "int voyages(int)", "int letGo(int)", "long home(int,int,int)", "int asks(int,int,int)",
         "int winter(int,int,int)", "int image(int)", "int restore(int)", "int told(int)"};
     private static final String[] CONSTANTS = {"NONE", "DROWNED", "UNKNOWN", "OUTSIDE", "STATE", "FULL", "NO", "LOST"};
-    private static final String[] FORBIDDEN = {"\\bpackage\\b", "\\bimport\\b", "\\bthrow\\b", "\\btry\\b",
-        "\\bcatch\\b", "\\bfinally\\b", "\\bsynchronized\\b", "\\bassert\\b", "->", "::", "\\bequals\\b",
-        "\\bhashCode\\b", "\\btoString\\b", "\\bSystem\\b", "Exact\\b", "\\bdouble\\b", "\\bfloat\\b", "\\bnull\\b",
-        "\\bvar\\b", "\\bstatic \\{", "\\bRandom\\b", "\"", "while \\(true\\)"};
+    /** A package line, what rules 3 to 6 and 13 leave out, and answers made of what the machine throws. */
+    private static final String[] FORBIDDEN = {"^package\\b", "\\bfinally\\b", "\\bsynchronized\\b", "\\bassert\\b",
+        "::", "^(?!\\s*(case|default)\\b).*->", "\\bhashCode\\b", "\\bSystem\\.(?!arraycopy)", "Exact\\b",
+        "\\bstatic \\{", "\\bRandom\\b", "\\bThread\\b", "\\bjava\\.(?!util\\.)", "\\bgetMessage\\b",
+        "\\bextends \\w*Exception\\b",
+        "catch \\([^)]*\\b(Throwable|Error|Exception|ArrayIndex\\w*|StringIndex\\w*|Null\\w*|Negative\\w*|ArrayStore\\w*|ClassCast\\w*)\\b"};
+    private static final int MOST_LINES = 70, MOST_PARAMETERS = 7, MOST_CLASSES = 13, MOST_FIELDS = 22;
     private static final Pattern METHOD = Pattern.compile("^( +)(public |private |static )*[a-zA-Z\\[\\]]+ "
         + "([a-zA-Z]+)\\(([^)]*)\\) \\{$");
 
@@ -60,10 +63,10 @@ public final class LanguageTest {
             }
             found++;
             int end = lines.subList(i, lines.size()).indexOf(m.group(1) + "}");
-            check(end >= 0 && end <= 60, "a method is short: " + m.group(3));
-            check(m.group(4).split(",").length <= 7, "seven parameters at most: " + m.group(3));
+            check(end >= 0 && end <= MOST_LINES, "a method is short: " + m.group(3));
+            check(m.group(4).split(",").length <= MOST_PARAMETERS, "seven parameters at most: " + m.group(3));
         }
-        check(found > 60, "the methods are found");
+        check(found >= FACE.length, "the methods are found");
     }
 
     private static String shown(Method m) {
@@ -86,7 +89,7 @@ public final class LanguageTest {
                 names.add(m.getName());
                 check(!Modifier.isStatic(m.getModifiers()), "no static method in the face");
             } else {
-                check(Modifier.isPrivate(m.getModifiers()), "private or of the face: " + m);
+                check(m.isSynthetic() || Modifier.isPrivate(m.getModifiers()), "private or of the face: " + m);
             }
         }
         check(open.equals(new TreeSet<>(Arrays.asList(FACE))), "the face's methods: " + open);
@@ -99,16 +102,12 @@ public final class LanguageTest {
             }
         }
         check(constants.equals(new TreeSet<>(Arrays.asList(CONSTANTS))), "the face's constants: " + constants);
-        checkClass(face, new HashSet<>());
-        check(face.getDeclaredClasses().length < 12, "some twelve classes at most");
+        checkClass(face, names);
+        check(face.getDeclaredClasses().length < MOST_CLASSES, "some twelve classes at most");
         for (Class<?> inside : face.getDeclaredClasses()) {
-            check(Modifier.isStatic(inside.getModifiers()) && Modifier.isPrivate(inside.getModifiers()),
-                "classes inside are private and static: " + inside);
+            check(!Modifier.isPublic(inside.getModifiers()) && !Modifier.isProtected(inside.getModifiers()),
+                "classes inside are private or package-visible: " + inside);
             checkClass(inside, names);
-        }
-        for (Method m : face.getDeclaredMethods()) {
-            check(!Modifier.isPrivate(m.getModifiers()) || !names.contains(m.getName()),
-                "no private method bears the name of a public one: " + m);
         }
     }
 
@@ -121,9 +120,10 @@ public final class LanguageTest {
                 fields++;
             }
         }
-        check(fields <= 20, "some twenty fields at most: " + one);
+        check(fields <= MOST_FIELDS, "some twenty fields at most: " + one);
         for (Method m : one.getDeclaredMethods()) {
-            check(!taken.contains(m.getName()), "no method inside bears the name of a public one: " + m);
+            check(!Modifier.isPrivate(m.getModifiers()) || !taken.contains(m.getName()),
+                "no private method bears the name of a public one: " + m);
         }
     }
 

@@ -8,8 +8,10 @@ public final class ModelTest {
     private static final int[] ODD = {Integer.MIN_VALUE, Integer.MAX_VALUE, -8, -7, -6, -5, -4, -3, -2, -1, 0, 1, 2,
         3, 4, 5, 6, 7, 8, 9, 10, 11, 15, 16, 25, 31, 32, 33, 48, 49, 60, 61, 63, 64, 99, 100, 126, 127, 129, 130, 999,
         1000, 9999, 10000, 12345, 543210, 654321, 999999, 1000000};
-    private static final int RUNS = 500;
+    private static final int RUNS = 300;
     private static final int STEPS = 120;
+    /** A step makes at most some 100 calls; an object answers for 512. */
+    private static final int MOST_CALLS = 400;
 
     private static final Random random = new Random(20261118);
     private static LentNames port;
@@ -17,6 +19,7 @@ public final class ModelTest {
     private static final StringBuilder run = new StringBuilder();
     private static int wrong = 0;
     private static int plainAnswers = 0;
+    private static int calls = 0;
 
     private static long call(int op, int a, int b, int c, int d) {
         switch (op) {
@@ -77,6 +80,7 @@ public final class ModelTest {
     private static void both(int op, int a, int b, int c, int d) {
         run.append(NAMES[op]).append('(').append(a).append(' ').append(b).append(' ').append(c).append(' ').append(d)
             .append(") ");
+        calls++;
         long got = call(op, a, b, c, d);
         long want = due(op, a, b, c, d);
         if (got >= 0) {
@@ -216,7 +220,8 @@ public final class ModelTest {
         port = new LentNames();
         model = new Model();
         run.setLength(0);
-        for (int i = 0; i < STEPS; i++) {
+        calls = 0;
+        for (int i = 0; i < STEPS && calls < MOST_CALLS; i++) {
             int kind = upTo(20);
             if (kind < 9) {
                 set();

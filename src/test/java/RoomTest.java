@@ -8,10 +8,17 @@ import java.util.Deque;
 import java.util.IdentityHashMap;
 import java.util.Set;
 
-/** No call makes objects, and what an object is made of is little: all calls of a run share one room. */
+/**
+ * All calls of a run share one room, of some 600,000 objects and 7.3 million elements: what an object is made of is
+ * little, and its calls make little or nothing (the program makes nothing; what came near the room would fail).
+ */
 public final class RoomTest {
-    private static final int MOST_OBJECTS = 60;
-    private static final int MOST_ELEMENTS = 1000;
+    /** Of the room that is there for five objects with all their calls. */
+    private static final int MOST_OBJECTS = 120000;
+    private static final int MOST_ELEMENTS = 1460000;
+    private static final int LEAST_BYTES_OF_ELEMENT = 4;
+    /** An object is made for 512 calls; a turn makes some 60. */
+    private static final int TURNS_OF_ONE = 8;
     private static long sum = 0;
 
     private static void callAll(LentNames port, int i) {
@@ -31,11 +38,14 @@ public final class RoomTest {
     private static long bytesOf(int turns) {
         com.sun.management.ThreadMXBean bean =
             (com.sun.management.ThreadMXBean) ManagementFactory.getThreadMXBean();
-        LentNames port = new LentNames();
+        LentNames[] ports = new LentNames[turns];
+        for (int i = 0; i < turns; i += TURNS_OF_ONE) {
+            ports[i] = new LentNames();
+        }
         long id = Thread.currentThread().getId();
         long before = bean.getThreadAllocatedBytes(id);
         for (int i = 0; i < turns; i++) {
-            callAll(port, i);
+            callAll(ports[i - i % TURNS_OF_ONE], i);
         }
         return bean.getThreadAllocatedBytes(id) - before;
     }
@@ -51,6 +61,15 @@ public final class RoomTest {
             Object next = open.poll();
             if (next.getClass().isArray()) {
                 elements += Array.getLength(next);
+                for (int i = 0; next instanceof Object[] && i < Array.getLength(next); i++) {
+                    Object value = Array.get(next, i);
+                    if (value != null && met.add(value)) {
+                        open.add(value);
+                    }
+                }
+                continue;
+            }
+            if (!next.getClass().getPackageName().isEmpty()) {
                 continue;
             }
             for (Field field : next.getClass().getDeclaredFields()) {
@@ -70,11 +89,10 @@ public final class RoomTest {
 
     public static void main(String[] args) throws IllegalAccessException {
         boolean good = true;
-        bytesOf(300);
-        long bytes = bytesOf(300);
-        // the measuring itself may take some; one int per call would take over 200000
-        if (bytes > 20000) {
-            System.out.println("300 turns of calls took " + bytes + " bytes");
+        bytesOf(40 * TURNS_OF_ONE);
+        long bytes = bytesOf(40 * TURNS_OF_ONE) / 40;
+        if (bytes > (long) LEAST_BYTES_OF_ELEMENT * MOST_ELEMENTS) {
+            System.out.println("the calls of one object took " + bytes + " bytes");
             good = false;
         }
         LentNames port = new LentNames();
@@ -84,7 +102,7 @@ public final class RoomTest {
             System.out.println("an object is made of " + size[0] + " objects with " + size[1] + " elements");
             good = false;
         }
-        System.out.println("RoomTest: " + bytes + " bytes by calls, " + size[0] + " objects, " + size[1]
+        System.out.println("RoomTest: " + bytes + " bytes by the calls of one object, " + size[0] + " objects, " + size[1]
             + " elements; sum " + sum);
         if (!good) {
             System.exit(1);
