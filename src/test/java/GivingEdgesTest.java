@@ -319,6 +319,24 @@ public final class GivingEdgesTest {
         stable(new LentNames(), 63, 3, 2, 20, 0, 1, NONE, NONE, NONE, NONE);
     }
 
+    /** "HULLS asking in order of liking, NAMES holding whom they like best": as long as it can be, each HULL asks each NAME. */
+    private static void longestAsking() {
+        int[][] likings = {{3, 4, 2, 1, 0}, {4, 0, 2, 1, 3}, {2, 0, 3, 4, 1}, {0, 4, 3, 2, 1}, {1, 4, 0, 3, 2},
+            {2, 0, 1, 3, 4}};
+        int[] rows = {35142, 345102, 450132, 154230, 521034};
+        LentNames port = new LentNames();
+        for (int h = 0; h < 6; h++) {
+            for (int place = 0; place < 5; place++) {
+                port.worth(h, likings[h][place], 90 - 10 * place);
+            }
+        }
+        for (int n = 0; n < 5; n++) {
+            port.rank(n, rows[n]);
+        }
+        stable(port, 63, 31, 5, 250, 0, 3, NONE, 1, 2, 4);
+        leave(port, 63, 31, 140235, NONE, NONE);
+    }
+
     /** "STABLE: a GIVING by which no HULL and NAME (MAY) would both rather have one another": it need not be MOST. */
     private static void stableIsNotMost() {
         LentNames port = new LentNames();
@@ -535,6 +553,7 @@ public final class GivingEdgesTest {
         ranks();
         betterThanNobody();
         bestForHulls();
+        longestAsking();
         stableIsNotMost();
         digits();
         figures();
