@@ -23,9 +23,8 @@ public final class LentNames {
     private static final int FIRST_SIGN = 33;
     private static final int LAST_SIGN = 126;
 
-    /** The most ? on a pad, and the ways to write hulls for so many. */
     private static final int GAPS = 4;
-    private static final int WAYS = 1296;
+    private static final int WAYS = HULLS * HULLS * HULLS * HULLS;
     private static final int GAP = -1;
 
     private static final int SAIL = 0;
@@ -40,7 +39,6 @@ public final class LentNames {
     private final Port port;
     private final Port firstImage;
     private final Port secondImage;
-    /** Which images have been kept, as bits. */
     private int keptImages;
     private final Pad pad;
     private final Sea sea;
@@ -94,7 +92,7 @@ public final class LentNames {
         if (!isName(name)) {
             return UNKNOWN;
         }
-        return isRow(row) ? swap(port.rank, name, row) : OUTSIDE;
+        return holdsEachHullOnce(row) ? swap(port.rank, name, row) : OUTSIDE;
     }
 
     public int say(int sign) {
@@ -339,8 +337,7 @@ public final class LentNames {
         return i >= 0 && (bits >> i & 1) == 1;
     }
 
-    /** Whether a number of six digits holds each hull once. */
-    private static boolean isRow(int row) {
+    private static boolean holdsEachHullOnce(int row) {
         if (!isWithin(row, 0, MOST_ROW)) {
             return false;
         }
@@ -362,7 +359,7 @@ public final class LentNames {
             || isWithin(what, 30, 29 + NAMES) || isWithin(what, 40, 39 + NAMES);
     }
 
-    /** What refuses a question for a name on a day of the log, before it is judged; 0: nothing. */
+    /** What refuses who and could alike, 0: nothing. Which day is behind the last one shows when there is no fault. */
     private int refusalOf(int name, int day) {
         if (!isName(name) || day < 0) {
             return UNKNOWN;
@@ -377,6 +374,7 @@ public final class LentNames {
         return n == 0 ? firstImage : secondImage;
     }
 
+    // No caller reads or writes outside of a row; the index is tested all the same, so that nothing is ever thrown.
     private static int at(int[] row, int i) {
         return i >= 0 && i < row.length ? row[i] : 0;
     }
@@ -405,7 +403,7 @@ public final class LentNames {
         }
     }
 
-    /** The chance that a name comes home, in lowest terms: the upper (part 0) or the lower number (1). */
+    // What is in lowest terms for one day is so for all days: powers bring no common divisor.
     private long chanceHome(int name, int days, int part) {
         int safe = 90 + at(port.luck, name);
         int divisor = commonDivisor(safe, 100);
@@ -777,7 +775,6 @@ public final class LentNames {
             }
         }
 
-        /** Tells the log in all ways: how many are good, the first of them, who bears what was asked for. */
         void tryAll() {
             ways = 0;
             bearers = 0;
@@ -847,7 +844,6 @@ public final class LentNames {
             put(hullOf, name, hull);
         }
 
-        /** How many sail (-2), their worth (-1), the name of a hull. */
         int detail(int i) {
             int sail = 0;
             int sum = 0;
@@ -908,6 +904,7 @@ public final class LentNames {
 
         void findStable() {
             copyRow(choice, left);
+            // Each hull asks each name once at most.
             for (int turn = 0; turn < HULLS * NAMES; turn++) {
                 int hull = firstAsking();
                 if (hull == NONE) {
@@ -939,10 +936,13 @@ public final class LentNames {
         private void askFor(int hull, int name) {
             put(left, hull, at(left, hull) & ~(1 << name));
             int held = at(hullOf, name);
-            if (namePrefers(name, hull, held)) {
-                put(nameOf, held, NONE);
-                give(hull, name);
+            if (!namePrefers(name, hull, held)) {
+                return;
             }
+            if (held != NONE) {
+                put(nameOf, held, NONE);
+            }
+            give(hull, name);
         }
 
         private boolean hullPrefers(int hull, int name, int other) {
@@ -1015,6 +1015,7 @@ public final class LentNames {
                 longest = Math.max(longest, days);
                 all += days;
             }
+            // No way takes less than the longest voyage, and none needs more than all of them one behind another.
             for (int limit = longest; limit <= all; limit++) {
                 if (fits(this, names, limit, 0)) {
                     return limit;
