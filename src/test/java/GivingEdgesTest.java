@@ -319,11 +319,8 @@ public final class GivingEdgesTest {
         stable(new LentNames(), 63, 3, 2, 20, 0, 1, NONE, NONE, NONE, NONE);
     }
 
-    /** "HULLS asking in order of liking, NAMES holding whom they like best": as long as it can be, each HULL asks each NAME. */
-    private static void longestAsking() {
-        int[][] likings = {{3, 4, 2, 1, 0}, {4, 0, 2, 1, 3}, {2, 0, 3, 4, 1}, {0, 4, 3, 2, 1}, {1, 4, 0, 3, 2},
-            {2, 0, 1, 3, 4}};
-        int[] rows = {35142, 345102, 450132, 154230, 521034};
+    /** An object in which each HULL likes the NAMES in this order, and each NAME has this RANK. */
+    private static LentNames liked(int[][] likings, int... rows) {
         LentNames port = new LentNames();
         for (int h = 0; h < 6; h++) {
             for (int place = 0; place < 5; place++) {
@@ -333,8 +330,20 @@ public final class GivingEdgesTest {
         for (int n = 0; n < 5; n++) {
             port.rank(n, rows[n]);
         }
+        return port;
+    }
+
+    /** "HULLS asking in order of liking, NAMES holding whom they like best": as long as it can be, each HULL asks each NAME. */
+    private static void longestAsking() {
+        LentNames port = liked(new int[][] {{3, 4, 2, 1, 0}, {4, 0, 2, 1, 3}, {2, 0, 3, 4, 1}, {0, 4, 3, 2, 1},
+            {1, 4, 0, 3, 2}, {2, 0, 1, 3, 4}}, 35142, 345102, 450132, 154230, 521034);
         stable(port, 63, 31, 5, 250, 0, 3, NONE, 1, 2, 4);
         leave(port, 63, 31, 140235, NONE, NONE);
+        // HULLS that ask by their numbers: by the last of all, A gets b, which E held
+        port = liked(new int[][] {{3, 0, 4, 2, 1}, {3, 1, 0, 2, 4}, {4, 0, 3, 1, 2}, {4, 1, 3, 2, 0}, {3, 4, 0, 2, 1},
+            {0, 1, 4, 2, 3}}, 302541, 42153, 230541, 513420, 124305);
+        stable(port, 63, 31, 5, 250, 1, 4, 2, 0, NONE, 3);
+        leave(port, 63, 31, 253104, NONE, NONE);
     }
 
     /** "STABLE: a GIVING by which no HULL and NAME (MAY) would both rather have one another": it need not be MOST. */
